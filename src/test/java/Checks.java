@@ -52,12 +52,18 @@ final class Checks {
             call.on(turner);
             tell(what + " threw nothing, due is " + want.getName());
         } catch (RuntimeException e) {
-            if (e.getClass() != want) {
-                tell(what + " threw " + e.getClass().getName() + ", due is " + want.getName());
+            if (e.getClass() != want || !isThrownByTheClass(e)) {
+                tell(what + " threw " + e + ", due is " + want.getName() + ", thrown by the class itself");
             }
         }
         due("what is shown after " + what, shown(turner), before);
         return turner;
+    }
+
+    /** A list throws exceptions of these classes too, and none of those may reach a caller. */
+    static boolean isThrownByTheClass(RuntimeException e) {
+        StackTraceElement[] trace = e.getStackTrace();
+        return trace.length > 0 && trace[0].getClassName().equals("LogTurner");
     }
 
     /** All that the object's own questions answer. */

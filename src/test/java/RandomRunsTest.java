@@ -65,13 +65,16 @@ public final class RandomRunsTest {
     }
 
     private static long thrown(RuntimeException e) {
+        if (!Checks.isThrownByTheClass(e)) {
+            return refused(4);
+        }
         if (e.getClass() == Checks.INDEX) {
             return refused(1);
         }
         if (e.getClass() == Checks.ARGUMENT) {
             return refused(2);
         }
-        return e.getClass() == Checks.STATE ? refused(3) : refused(4);
+        return e.getClass() == Checks.STATE ? refused(3) : refused(5);
     }
 
     private interface Asked {

@@ -64,6 +64,12 @@ public final class ViewsTest {
         y.tell(0);
         y.write(0, 1);
         Checks.due("the day of the next month", y.nextDue(0), 125);
+        y.advance(19);
+        y.turn(0);
+        y.tell(0);
+        y.write(0, 1);
+        y.advance(1);
+        Checks.due("the day behind the last turn", y.isDue(0), true);
     }
 
     private static void isDueNotTooSoon() {
