@@ -41,13 +41,19 @@ final class Checks {
     }
 
     /**
-     * The call must throw just this and leave everything that the object shows as it was. Each one
-     * is made on an object of its own, since an object serves 512 calls. Returns that object.
+     * The call must throw just this and change nothing: an object on which it was made answers as one
+     * on which it was not, however both are used further.
      */
-    static LogTurner dueThrows(String what, Class<? extends RuntimeException> want, Maker maker, Call call) {
+    static void dueThrows(String what, Class<? extends RuntimeException> want, Maker maker, Call call) {
+        for (Probes.Probe probe : Probes.ALL) {
+            String got = probe.answers(refused(what, want, maker, call));
+            due("what is answered after " + what, got, probe.answers(maker.make()));
+        }
+    }
+
+    private static LogTurner refused(String what, Class<? extends RuntimeException> want, Maker maker, Call call) {
         made++;
         LogTurner turner = maker.make();
-        String before = shown(turner);
         try {
             call.on(turner);
             tell(what + " threw nothing, due is " + want.getName());
@@ -56,14 +62,17 @@ final class Checks {
                 tell(what + " threw " + e + ", due is " + want.getName() + ", thrown by the class itself");
             }
         }
-        due("what is shown after " + what, shown(turner), before);
         return turner;
     }
 
     /** A list throws exceptions of these classes too, and none of those may reach a caller. */
     static boolean isThrownByTheClass(RuntimeException e) {
         StackTraceElement[] trace = e.getStackTrace();
-        return trace.length > 0 && trace[0].getClassName().equals("LogTurner");
+        if (trace.length == 0) {
+            return false;
+        }
+        String thrower = trace[0].getClassName();
+        return thrower.equals("LogTurner") || thrower.startsWith("LogTurner$");
     }
 
     /** All that the object's own questions answer. */

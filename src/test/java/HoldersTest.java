@@ -2,35 +2,14 @@
 public final class HoldersTest {
 
     private static final int NONE = LogTurner.NONE;
-    private static final int[] NO_HOLDERS = {-1, 4, Integer.MIN_VALUE, Integer.MAX_VALUE};
 
     public static void main(String[] args) {
         open();
-        openRefuses();
         shut();
-        shutRefuses();
         tell();
-        tellRefuses();
         write();
-        writeRefuses();
         holds();
-        holdsRefuses();
         Checks.end();
-    }
-
-    /** The holder 1 holds an old part; the others hold nothing. */
-    private static LogTurner heldOld() {
-        LogTurner x = new LogTurner();
-        x.open(1, 1);
-        x.write(1, 3);
-        x.turn(1);
-        return x;
-    }
-
-    private static LogTurner heldAndShut() {
-        LogTurner x = heldOld();
-        x.shut(1);
-        return x;
     }
 
     private static void open() {
@@ -54,15 +33,6 @@ public final class HoldersTest {
         Checks.due("an old part held no more can go", x.turn(4), 1);
     }
 
-    private static void openRefuses() {
-        for (int holder : NO_HOLDERS) {
-            Checks.dueThrows("open by " + holder, Checks.INDEX, HoldersTest::heldOld, x -> x.open(holder, 0));
-        }
-        for (int file : new int[] {-1, 5, Integer.MIN_VALUE, Integer.MAX_VALUE}) {
-            Checks.dueThrows("open of " + file, Checks.INDEX, HoldersTest::heldOld, x -> x.open(1, file));
-        }
-    }
-
     private static void shut() {
         LogTurner x = new LogTurner();
         Checks.due("shut of nothing", x.shut(3), false);
@@ -76,12 +46,6 @@ public final class HoldersTest {
         Checks.due("a held part stays", x.turn(0), 0);
         Checks.due("shut of an old part", x.shut(2), true);
         Checks.due("it goes with the next turn", x.turn(0), 2);
-    }
-
-    private static void shutRefuses() {
-        for (int holder : NO_HOLDERS) {
-            Checks.dueThrows("shut by " + holder, Checks.INDEX, HoldersTest::heldOld, x -> x.shut(holder));
-        }
     }
 
     private static void tell() {
@@ -99,14 +63,6 @@ public final class HoldersTest {
         Checks.due("live(3)", x.live(3), 9);
     }
 
-    private static void tellRefuses() {
-        Checks.dueThrows("told with nothing", Checks.STATE, HoldersTest::heldOld, x -> x.tell(0));
-        for (int holder : NO_HOLDERS) {
-            Checks.dueThrows("told " + holder, Checks.INDEX, HoldersTest::heldOld, x -> x.tell(holder));
-        }
-        Checks.dueThrows("told after shut", Checks.STATE, HoldersTest::heldAndShut, x -> x.tell(1));
-    }
-
     private static void write() {
         LogTurner x = new LogTurner();
         x.open(0, 2);
@@ -119,19 +75,6 @@ public final class HoldersTest {
         x.tell(0);
         Checks.due("to the new part", x.write(0, 8), 8);
         Checks.due("lines(2, 0)", x.lines(2, 0), 1005);
-    }
-
-    private static void writeRefuses() {
-        for (int holder : NO_HOLDERS) {
-            Checks.dueThrows("write by " + holder, Checks.INDEX, HoldersTest::heldOld, x -> x.write(holder, 1));
-            Checks.dueThrows("the holder comes first", Checks.INDEX, HoldersTest::heldOld, x -> x.write(holder, 0));
-        }
-        for (int lines : new int[] {0, 1001, -1, Integer.MIN_VALUE, Integer.MAX_VALUE}) {
-            Checks.dueThrows("write of " + lines, Checks.ARGUMENT, HoldersTest::heldOld, x -> x.write(1, lines));
-            Checks.dueThrows("the lines come before", Checks.ARGUMENT, HoldersTest::heldOld, x -> x.write(0, lines));
-        }
-        Checks.dueThrows("write with nothing", Checks.STATE, HoldersTest::heldOld, x -> x.write(0, 1));
-        Checks.dueThrows("write after shut", Checks.STATE, HoldersTest::heldAndShut, x -> x.write(1, 1));
     }
 
     private static void holds() {
@@ -151,11 +94,5 @@ public final class HoldersTest {
         Checks.due("the next", x.holds(3), 203);
         x.tell(2);
         Checks.due("the live part", x.holds(2), 200);
-    }
-
-    private static void holdsRefuses() {
-        for (int holder : NO_HOLDERS) {
-            Checks.dueThrows("holds of " + holder, Checks.INDEX, HoldersTest::heldOld, x -> x.holds(holder));
-        }
     }
 }

@@ -2,7 +2,6 @@
 public final class RulesTest {
 
     private static final int NONE = LogTurner.NONE;
-    private static final int[] OUTSIDE_RULES = {-1, 3, Integer.MIN_VALUE, Integer.MAX_VALUE};
 
     public static void main(String[] args) {
         newObject();
@@ -10,12 +9,9 @@ public final class RulesTest {
         newKeep();
         setDueTakesItsEdges();
         setDueSets();
-        setDueRefuses();
         setOldTakesItsEdges();
         setOldSets();
-        setOldRefuses();
         give();
-        giveRefuses();
         Checks.end();
     }
 
@@ -115,42 +111,6 @@ public final class RulesTest {
         Checks.due("set again", x.isDue(1), false);
     }
 
-    private static LogTurner dueSet() {
-        LogTurner x = new LogTurner();
-        x.setDue(0, 500, 3, 20, 2);
-        x.turn(0);
-        x.open(0, 0);
-        x.write(0, 499);
-        return x;
-    }
-
-    private static void setDueRefuses() {
-        for (int rule : OUTSIDE_RULES) {
-            refusesDue(Checks.INDEX, x -> x.setDue(rule, 1, 1, 1, 0));
-            refusesDue(Checks.INDEX, x -> x.setDue(rule, -1, 7, 30, 101));
-        }
-        for (int size : new int[] {-1, 10001, Integer.MIN_VALUE, Integer.MAX_VALUE}) {
-            refusesDue(Checks.ARGUMENT, x -> x.setDue(0, size, 1, 1, 0));
-        }
-        for (int weekday : new int[] {-2, 7, Integer.MIN_VALUE, Integer.MAX_VALUE}) {
-            refusesDue(Checks.ARGUMENT, x -> x.setDue(0, 1, weekday, 1, 0));
-        }
-        for (int monthly : new int[] {-2, 30, Integer.MIN_VALUE, Integer.MAX_VALUE}) {
-            refusesDue(Checks.ARGUMENT, x -> x.setDue(0, 1, 1, monthly, 0));
-        }
-        for (int least : new int[] {-1, 101, Integer.MIN_VALUE, Integer.MAX_VALUE}) {
-            refusesDue(Checks.ARGUMENT, x -> x.setDue(0, 1, 1, 1, least));
-        }
-    }
-
-    /** Whether the rule is as it was shows in the days that it makes due. */
-    private static void refusesDue(Class<? extends RuntimeException> want, Checks.Call call) {
-        LogTurner x = Checks.dueThrows("setDue", want, RulesTest::dueSet, call);
-        Checks.due("the weekday that was set", x.nextDue(0), 3);
-        x.write(0, 1);
-        Checks.due("the size and the least age that were set", x.nextDue(0), 2);
-    }
-
     private static void setOldTakesItsEdges() {
         LogTurner x = new LogTurner();
         x.setOld(2, 10, 1000, true, true, true);
@@ -185,41 +145,6 @@ public final class RulesTest {
         Checks.due("set again", x.name(1, 0), 1);
     }
 
-    private static LogTurner oldSet() {
-        LogTurner x = new LogTurner();
-        x.setOld(0, 2, 0, false, false, false);
-        x.turn(0);
-        x.turn(0);
-        x.open(0, 0);
-        return x;
-    }
-
-    private static void setOldRefuses() {
-        for (int rule : OUTSIDE_RULES) {
-            refusesOld(Checks.INDEX, x -> x.setOld(rule, 0, 1, true, true, true));
-            refusesOld(Checks.INDEX, x -> x.setOld(rule, 11, -1, true, true, true));
-        }
-        for (int keep : new int[] {-1, 11, Integer.MIN_VALUE, Integer.MAX_VALUE}) {
-            refusesOld(Checks.ARGUMENT, x -> x.setOld(0, keep, 1, true, true, true));
-        }
-        for (int greatest : new int[] {-1, 1001, Integer.MIN_VALUE, Integer.MAX_VALUE}) {
-            refusesOld(Checks.ARGUMENT, x -> x.setOld(0, 0, greatest, true, true, true));
-        }
-    }
-
-    /** Whether the rule is as it was shows in what it does with old parts. */
-    private static void refusesOld(Class<? extends RuntimeException> want, Checks.Call call) {
-        LogTurner x = Checks.dueThrows("setOld", want, RulesTest::oldSet, call);
-        x.setDue(0, 1, NONE, NONE, 0);
-        x.write(0, 1);
-        x.advance(5);
-        Checks.due("run()", x.run(), 1);
-        Checks.due("still keeps 2, without a greatest age", x.olds(0), 2);
-        Checks.due("still does not squeeze", x.isSqueezed(0, 0), false);
-        Checks.due("still does not date", x.name(0, 1), 1);
-        Checks.due("still does not tell", x.holds(0), 2);
-    }
-
     private static void give() {
         LogTurner x = new LogTurner();
         x.setDue(2, 1, NONE, NONE, 0);
@@ -237,25 +162,5 @@ public final class RulesTest {
         Checks.due("a dated name", x.name(4, 0), 0);
         x.give(4, 0);
         Checks.due("a number by the new rule", x.name(4, 0), 1);
-    }
-
-    private static LogTurner given() {
-        LogTurner x = new LogTurner();
-        x.give(0, 2);
-        return x;
-    }
-
-    private static void giveRefuses() {
-        for (int file : new int[] {-1, 5, Integer.MIN_VALUE, Integer.MAX_VALUE}) {
-            refusesGive(x -> x.give(file, 0));
-        }
-        for (int rule : OUTSIDE_RULES) {
-            refusesGive(x -> x.give(0, rule));
-        }
-    }
-
-    private static void refusesGive(Checks.Call call) {
-        LogTurner x = Checks.dueThrows("give", Checks.INDEX, RulesTest::given, call);
-        Checks.due("the rule that it had", x.give(0, 0), 2);
     }
 }

@@ -2,11 +2,9 @@
 public final class TurnsTest {
 
     private static final int NONE = LogTurner.NONE;
-    private static final int[] NO_FILES = {-1, 5, Integer.MIN_VALUE, Integer.MAX_VALUE};
 
     public static void main(String[] args) {
         advance();
-        advanceRefuses();
         runTurnsTheDueOnes();
         runTellsOncePerRule();
         runTellsByTheRuleOfNow();
@@ -15,9 +13,7 @@ public final class TurnsTest {
         turnThrowsByNumber();
         turnThrowsByAge();
         turnSparesTheYoungAndTheHeld();
-        turnAsOftenAsThereAreCalls();
         lose();
-        turnAndLoseRefuse();
         Checks.end();
     }
 
@@ -42,30 +38,6 @@ public final class TurnsTest {
         }
         Checks.due("advance(99)", x.advance(99), 5000);
         Checks.due("day()", x.day(), 5000);
-    }
-
-    private static LogTurner onDay4901() {
-        LogTurner x = new LogTurner();
-        for (int i = 0; i < 49; i++) {
-            x.advance(100);
-        }
-        x.advance(1);
-        return x;
-    }
-
-    private static LogTurner onDay5000() {
-        LogTurner x = onDay4901();
-        x.advance(99);
-        return x;
-    }
-
-    private static void advanceRefuses() {
-        Checks.dueThrows("above 5000", Checks.STATE, TurnsTest::onDay4901, x -> x.advance(100));
-        Checks.dueThrows("above 5000 by one", Checks.STATE, TurnsTest::onDay5000, x -> x.advance(1));
-        for (int days : new int[] {0, 101, -1, Integer.MIN_VALUE, Integer.MAX_VALUE}) {
-            Checks.dueThrows("advance " + days, Checks.ARGUMENT, LogTurner::new, x -> x.advance(days));
-            Checks.dueThrows("the days come first", Checks.ARGUMENT, TurnsTest::onDay5000, x -> x.advance(days));
-        }
     }
 
     private static void runTurnsTheDueOnes() {
@@ -156,13 +128,6 @@ public final class TurnsTest {
         Checks.due("its last turn", x.lose(1), 2);
     }
 
-    private static void turnAndLoseRefuse() {
-        for (int file : NO_FILES) {
-            Checks.dueThrows("turn of " + file, Checks.INDEX, LogTurner::new, x -> x.turn(file));
-            Checks.dueThrows("lose of " + file, Checks.INDEX, LogTurner::new, x -> x.lose(file));
-        }
-    }
-
     private static void turnSqueezes() {
         LogTurner x = with(10, 0, 0, true);
         x.open(0, 0);
@@ -244,21 +209,6 @@ public final class TurnsTest {
         Checks.due("the next one goes for the held one", y.turn(0), 1);
         Checks.due("as many as are kept", y.olds(0), 2);
         Checks.due("the held one", y.holds(0), 1);
-    }
-
-    /** An object serves 512 calls. */
-    private static void turnAsOftenAsThereAreCalls() {
-        LogTurner x = with(0, 0, 100, false);
-        for (int i = 0; i < 509; i++) {
-            x.turn(0);
-        }
-        Checks.due("olds(0)", x.olds(0), 509);
-        LogTurner y = new LogTurner();
-        y.setDue(0, 0, NONE, NONE, 100);
-        for (int i = 0; i < 510; i++) {
-            y.turn(3);
-        }
-        Checks.due("the number of the oldest", y.name(3, 0), 510);
     }
 
     private static void lose() {

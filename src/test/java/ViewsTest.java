@@ -2,7 +2,6 @@
 public final class ViewsTest {
 
     private static final int NONE = LogTurner.NONE;
-    private static final int[] NO_FILES = {-1, 5, Integer.MIN_VALUE, Integer.MAX_VALUE};
 
     public static void main(String[] args) {
         isDueBySize();
@@ -14,7 +13,6 @@ public final class ViewsTest {
         liveAndOlds();
         linesAndThrown();
         name();
-        refusals();
         Checks.end();
     }
 
@@ -186,31 +184,5 @@ public final class ViewsTest {
         x.turn(0);
         Checks.due("one of the day 0 is gone", x.name(0, 0), 0);
         Checks.due("the last of the day 7", x.name(0, 3), 7002);
-    }
-
-    private static LogTurner turnedTwice() {
-        LogTurner x = new LogTurner();
-        x.turn(0);
-        x.turn(0);
-        return x;
-    }
-
-    private static void refusals() {
-        for (int file : NO_FILES) {
-            Checks.dueThrows("isDue of " + file, Checks.INDEX, ViewsTest::turnedTwice, x -> x.isDue(file));
-            Checks.dueThrows("nextDue of " + file, Checks.INDEX, ViewsTest::turnedTwice, x -> x.nextDue(file));
-            Checks.dueThrows("live of " + file, Checks.INDEX, ViewsTest::turnedTwice, x -> x.live(file));
-            Checks.dueThrows("olds of " + file, Checks.INDEX, ViewsTest::turnedTwice, x -> x.olds(file));
-            Checks.dueThrows("thrown of " + file, Checks.INDEX, ViewsTest::turnedTwice, x -> x.thrown(file));
-            Checks.dueThrows("lines of " + file, Checks.INDEX, ViewsTest::turnedTwice, x -> x.lines(file, 0));
-            Checks.dueThrows("name of " + file, Checks.INDEX, ViewsTest::turnedTwice, x -> x.name(file, 0));
-            Checks.dueThrows("isSqueezed of " + file, Checks.INDEX, ViewsTest::turnedTwice, x -> x.isSqueezed(file, 0));
-        }
-        for (int k : new int[] {-1, 2, Integer.MIN_VALUE, Integer.MAX_VALUE}) {
-            Checks.dueThrows("lines of the part " + k, Checks.INDEX, ViewsTest::turnedTwice, x -> x.lines(0, k));
-            Checks.dueThrows("name of the part " + k, Checks.INDEX, ViewsTest::turnedTwice, x -> x.name(0, k));
-            Checks.dueThrows("isSqueezed of the part " + k, Checks.INDEX, ViewsTest::turnedTwice, x -> x.isSqueezed(0, k));
-        }
-        Checks.dueThrows("a file without old parts", Checks.INDEX, ViewsTest::turnedTwice, x -> x.lines(1, 0));
     }
 }
