@@ -36,7 +36,7 @@ final class Checks {
     static void due(String what, String got, String want) {
         made++;
         if (!got.equals(want)) {
-            tell(what + " answered\n" + got + "due is\n" + want);
+            tell(what + " answered\n" + got + "\ndue is\n" + want);
         }
     }
 
